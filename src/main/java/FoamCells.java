@@ -622,7 +622,8 @@ public final class FoamCells {
         }
 
         private void unlink(int half) {
-            link(prev[half], next[half]);
+            next[prev[half]] = next[half];
+            prev[next[half]] = prev[half];
         }
 
         private void setRound(int half, int x, int y) {
@@ -646,7 +647,7 @@ public final class FoamCells {
 
         /** The CELL at the MEETING where a half ends, the way round. */
         int endOf(int half) {
-            return across(next[half]);
+            return owner[next[half] ^ 1];
         }
 
         /** The half of a CELL whose WALL has the least number: its SIDES are told from there on. */
@@ -676,14 +677,10 @@ public final class FoamCells {
         boolean canFlip(int wall) {
             int a = owner[2 * wall];
             int b = owner[2 * wall + 1];
-            return sides[a] > 3 && sides[b] > 3 && hasFourCells(wall);
+            return sides[a] > 3 && sides[b] > 3 && areFour(a, b, endOf(2 * wall), endOf(2 * wall + 1));
         }
 
-        private boolean hasFourCells(int wall) {
-            int a = owner[2 * wall];
-            int b = owner[2 * wall + 1];
-            int c = endOf(2 * wall);
-            int d = endOf(2 * wall + 1);
+        private static boolean areFour(int a, int b, int c, int d) {
             return a != b && a != c && a != d && b != c && b != d && c != d;
         }
 
@@ -714,8 +711,10 @@ public final class FoamCells {
         }
 
         private void insert(int half, int ahead, int behind) {
-            link(ahead, half);
-            link(half, behind);
+            next[ahead] = half;
+            prev[half] = ahead;
+            next[half] = behind;
+            prev[behind] = half;
             owner[half] = owner[ahead];
             sides[owner[half]]++;
         }
@@ -895,7 +894,7 @@ public final class FoamCells {
             int b = owner[2 * wall + 1];
             int c = endOf(2 * wall);
             int d = endOf(2 * wall + 1);
-            return hasFourCells(wall) && wallsBetween(a, b) == 1 && sides[c] > 3 && sides[d] > 3
+            return areFour(a, b, c, d) && wallsBetween(a, b) == 1 && sides[c] > 3 && sides[d] > 3
                 && sides[a] + sides[b] > 6;
         }
 
@@ -1388,7 +1387,7 @@ public final class FoamCells {
                 int half = start[cell];
                 for (int i = 0; i < mesh.sides[cell] && half >= 0; i++) {
                     int other = mesh.across(half);
-                    if (distance[other] < 0 && mesh.sides[other] >= least) {
+                    if (distance[other] < 0 && mesh.sides[other] >= least && queued < CELLS) {
                         distance[other] = distance[cell] + 1;
                         queue[queued] = other;
                         queued++;
