@@ -490,11 +490,7 @@ public final class FoamCells {
     }
 
     public int first(int what) {
-        switch (what) {
-            case 0: return paper.stepsToSwap(now);
-            case 1: return paper.stepsToVanish(now);
-            default: return NONE;
-        }
+        return what < 0 || what > 1 ? NONE : paper.stepsToFirst(now, what);
     }
 
     // ---- what has been ----
@@ -1633,22 +1629,13 @@ public final class FoamCells {
             return NONE;
         }
 
-        int stepsToSwap(Foam now) {
+        /** Until something is SWAPPED (0), VANISHES (1). */
+        int stepsToFirst(Foam now, int what) {
             foam.copyOf(now);
             for (int k = 1; k <= MOST_STEPS; k++) {
                 foam.goOn();
-                if (foam.swaps > now.swaps) {
-                    return k;
-                }
-            }
-            return NONE;
-        }
-
-        int stepsToVanish(Foam now) {
-            foam.copyOf(now);
-            for (int k = 1; k <= MOST_STEPS; k++) {
-                foam.goOn();
-                if (foam.vanished > now.vanished) {
+                boolean happened = what == 0 ? foam.swaps > now.swaps : foam.vanished > now.vanished;
+                if (happened) {
                     return k;
                 }
             }

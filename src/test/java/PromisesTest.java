@@ -968,6 +968,7 @@ public final class PromisesTest {
         due("nothing has changed", f.all(0), strain);
         f = new FoamCells();
         due("of like ones the first", f.rested(7, 5, 1, 0, 1), 7);
+        due("of like ones the first", f.rested(0, 5, 1, 0, 1), 0);
         due("rested(999999, 1, 1, 0, 1)", f.rested(999999, 1, 1, 0, 1), 999999);
         due("rested(999999, 2, 1, 0, 1)", f.rested(999999, 2, 1, 0, 1), -1);
         due("rested(999990, 10, 1, 0, 1)", f.rested(999990, 10, 1, 0, 1), 999990);
