@@ -1,6 +1,9 @@
 import java.util.NoSuchElementException;
 
-/** Each promise with answers reckoned by hand: ordinary ones, the document's edges, wrong numbers. */
+/**
+ * Each promise: ordinary answers, the document's edges, wrong numbers. Most are reckoned by hand; those of shaken and
+ * restless foams, and alike() of 5, are what the class and Model both answered.
+ */
 public final class PromisesTest {
     private static final int NO = Integer.MIN_VALUE;
     private static int wrong = 0;
