@@ -51,34 +51,37 @@ final class Due {
         asked++;
         if (!got.equals(want)) {
             wrong++;
-            System.out.println("\"" + sentence + "\": " + call + ":\n  it is " + got + "\n  due is " + want);
+            int at = 0;
+            while (at < got.length() && at < want.length() && got.charAt(at) == want.charAt(at)) {
+                at++;
+            }
+            System.out.println("\"" + sentence + "\": " + call + ": it is .." + piece(got, at) + ", due is .."
+                + piece(want, at));
         }
     }
 
-    /** The call answers so, is counted as refused by that alone, and leaves the foam as its twin is. */
+    private static String piece(String text, int at) {
+        return text.substring(Math.max(0, at - 30), Math.min(text.length(), at + 30));
+    }
+
+    /** The call answers so, is counted as refused by that alone, and leaves the foam as it was. */
     static void refused(String name, Maker maker, Call call, int answer) {
-        FoamCells f = maker.make();
-        FoamCells twin = maker.make();
-        int[] before = new int[4];
-        for (int k = 0; k < 4; k++) {
-            before[k] = f.count(11 + k);
-        }
-        due(name, call.on(f), answer);
-        for (int k = 0; k < 4; k++) {
-            due(name + ", then count(" + (11 + k) + ")", f.count(11 + k), before[k] + (answer == -1 - k ? 1 : 0));
-        }
-        text(name + " changes nothing", picture(f), picture(twin));
+        asIs(name, maker, call, answer, answer);
     }
 
-    /** The call answers so and leaves the foam, and how many were refused, as its twin has it. */
+    /** The call answers so, is not counted as refused, and leaves the foam as it was. */
     static void leaves(String name, Maker maker, Call call, int answer) {
+        asIs(name, maker, call, answer, 0);
+    }
+
+    private static void asIs(String name, Maker maker, Call call, int answer, int refusedBy) {
         FoamCells f = maker.make();
-        FoamCells twin = maker.make();
+        int[] before = each(11, 14, f::count);
         due(name, call.on(f), answer);
-        for (int k = 11; k < 15; k++) {
-            due(name + ", then count(" + k + ")", f.count(k), twin.count(k));
+        for (int k = 0; k < 4; k++) {
+            due(name + ", then count(" + (11 + k) + ")", f.count(11 + k), before[k] + (refusedBy == -1 - k ? 1 : 0));
         }
-        text(name + " changes nothing", picture(f), picture(twin));
+        text(name + " changes nothing", picture(maker, call), picture(maker, g -> 0));
     }
 
     /** The answers of a call for each number of a range. */
@@ -118,32 +121,49 @@ final class Due {
         return each(0, 2, what -> f.log(i, what));
     }
 
-    /** All that can be seen of a foam but the LOG's older part and what was refused, in some 300 calls for 12 CELLS. */
-    static String picture(FoamCells f) {
+    /**
+     * What can be seen of a foam behind a call, but for what was refused. It is looked at in parts, each part on a foam
+     * of its own, since no object is used for more than 512 calls.
+     */
+    static String picture(Maker maker, Call call) {
         StringBuilder s = new StringBuilder();
+        FoamCells f = made(maker, call);
         for (int k = 0; k < 16; k++) {
             if (k < 11 || k > 14) {
                 s.append(f.count(k)).append(' ');
             }
         }
-        for (int i = 0; i < 5; i++) {
+        for (int i = 0; i < 30; i++) {
             s.append("| ").append(f.log(i, 0)).append(' ').append(f.log(i, 1)).append(' ').append(f.log(i, 2));
         }
+        f = made(maker, call);
         for (int c = 0; c < 48; c++) {
             int sides = cell(f, c, 0);
             if (sides != THROWS) {
                 s.append("; ").append(c).append(": ").append(sides).append(' ').append(f.cell(c, 1));
             }
         }
-        for (int w = 0; w < 144; w++) {
+        for (int from = 0; from < 144; from += 36) {
+            addWalls(s, made(maker, call), from, from + 36);
+        }
+        return s.toString();
+    }
+
+    private static FoamCells made(Maker maker, Call call) {
+        FoamCells f = maker.make();
+        call.on(f);
+        return f;
+    }
+
+    private static void addWalls(StringBuilder s, FoamCells f, int from, int to) {
+        for (int w = from; w < to; w++) {
             int a = f.wall(w, 0);
             if (a >= 0) {
                 s.append("; ").append(w).append(": ").append(a).append(' ').append(f.wall(w, 1));
-                s.append(' ').append(f.wall(w, 2)).append(' ').append(f.wall(w, 4));
+                s.append(' ').append(f.wall(w, 2)).append(' ').append(f.wall(w, 3)).append(' ').append(f.wall(w, 4));
                 s.append(' ').append(f.rounds(w, 0)).append(' ').append(f.rounds(w, 1));
             }
         }
-        return s.toString();
     }
 
     /** The SIDES of both ENDS less those of both CELLS: by how much a STEP lengthens a WALL. */
@@ -159,6 +179,16 @@ final class Due {
                 f.length(w, length);
             }
         }
+    }
+
+    /** The least SEED that draws a WALL first. */
+    static int seedOf(int wall) {
+        for (int seed = 0; seed < 1000000; seed++) {
+            if ((1103L * seed + 12345) % 1000003 % 144 == wall) {
+                return seed;
+            }
+        }
+        return -1;
     }
 
     static FoamCells ring(int w, int h) {

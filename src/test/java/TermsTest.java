@@ -854,7 +854,7 @@ public final class TermsTest {
         Due.due("shake(0, 1, 99): no 105 here", f.shake(0, 1, 99), 0);
         Due.says("can be");
         f = Due.swapped(Due.ring(3, 3), 4, 2, 5);
-        int seed = seedOf(1);
+        int seed = Due.seedOf(1);
         Due.due("1 is not four", f.shake(seed, 1, 99), 0);
         Due.says("and its EASING is not below -h");
         for (int h = 0; h <= 6; h++) {
@@ -863,7 +863,7 @@ public final class TermsTest {
             // 0 lies between 0 and 1; 1 and 7 have EASING -6 next to it
             f = Due.swapped(new FoamCells(), 0);
             Due.due("easing of 9", f.wall(9, 6), 994);
-            Due.due("-6, h " + h, f.shake(seedOf(9), 1, h), h >= 6 ? 1 : 0);
+            Due.due("-6, h " + h, f.shake(Due.seedOf(9), 1, h), h >= 6 ? 1 : 0);
         }
         f = Due.ring(3, 3);
         f.cut(2, 3, 0);
@@ -871,19 +871,9 @@ public final class TermsTest {
         while (f.wall(nought, 6) != 1000) {
             nought++;
         }
-        Due.due("0, h 0", f.shake(seedOf(nought), 1, 0), 1);
+        Due.due("0, h 0", f.shake(Due.seedOf(nought), 1, 0), 1);
         Due.says("A DRAW of m: s becomes (1,103 s and 12,345) modulo 1,000,003; it is s modulo m");
         draws();
-    }
-
-    /** The least SEED that draws a WALL first. */
-    private static int seedOf(int wall) {
-        for (int seed = 0; seed < 1000000; seed++) {
-            if ((1103L * seed + 12345) % 1000003 % 144 == wall) {
-                return seed;
-            }
-        }
-        return -1;
     }
 
     private static void draws() {
