@@ -2,9 +2,6 @@
 public final class ChangesTest {
     private static final int NO = Due.NO;
     private static final int MOST = Due.MOST;
-    /** Numbers that no CELL of a lively foam has: outside all, free, gone. */
-    private static final int[] NO_CELLS = {NO, -2, -1, 15, 17, 18, 47, 48, 49, MOST};
-    private static final int[] NO_WALLS = {NO, -2, -1, 26, 45, 46, 51, 53, 54, 143, 144, 145, MOST};
 
     public static void main(String[] args) {
         aNewObject();
@@ -23,38 +20,6 @@ public final class ChangesTest {
         keeping();
         lastCall();
         Due.end();
-    }
-
-    /**
-     * Of 4 by 4: 15 went by a BURST (with WALLS 26, 45, 46), 17 has VANISHED (with 51 to 53), 16 has 3 SIDES; something
-     * of each kind is in the LOG, three calls were refused, one foam is kept.
-     */
-    private static FoamCells lively() {
-        FoamCells f = new FoamCells();
-        f.rate(2);
-        f.rate(10);
-        f.length(99, 5);
-        f.vanish(3);
-        f.length(0, 0);
-        f.steps(2);
-        f.swap(0);
-        f.keep(1);
-        f.cut(5, 0, 1);
-        f.cut(8, 0, 1);
-        f.vanish(17);
-        f.burst(45);
-        f.area(11, -5);
-        f.length(33, 7);
-        f.swap(30);
-        return f;
-    }
-
-    private static FoamCells full() {
-        FoamCells f = Due.ring(6, 6);
-        for (int k = 0; k < 12; k++) {
-            f.cut(k, 0, 1);
-        }
-        return f;
     }
 
     private static void aNewObject() {
@@ -76,20 +41,20 @@ public final class ChangesTest {
 
     private static void order() {
         Due.says("REFUSED: the first of these in that order: -1 ahead of -2");
-        Due.refused("area(48, 10000)", ChangesTest::lively, f -> f.area(48, 10000), -1);
-        Due.refused("area(-1, -1000)", ChangesTest::lively, f -> f.area(-1, -1000), -1);
-        Due.refused("length(144, 100)", ChangesTest::lively, f -> f.length(144, 100), -1);
-        Due.refused("length(-1, -1)", ChangesTest::lively, f -> f.length(-1, -1), -1);
+        Due.refused("area(48, 10000)", Due::lively, f -> f.area(48, 10000), -1);
+        Due.refused("area(-1, -1000)", Due::lively, f -> f.area(-1, -1000), -1);
+        Due.refused("length(144, 100)", Due::lively, f -> f.length(144, 100), -1);
+        Due.refused("length(-1, -1)", Due::lively, f -> f.length(-1, -1), -1);
         Due.says("cut: -2 (asked ahead of that)");
-        Due.refused("cut(48, 0, 0)", ChangesTest::lively, f -> f.cut(48, 0, 0), -2);
-        Due.refused("cut(-1, -1, 99)", ChangesTest::lively, f -> f.cut(-1, -1, 99), -2);
+        Due.refused("cut(48, 0, 0)", Due::lively, f -> f.cut(48, 0, 0), -2);
+        Due.refused("cut(-1, -1, 99)", Due::lively, f -> f.cut(-1, -1, 99), -2);
         Due.says("-4 behind all others");
-        Due.refused("cut(48, 0, 1), full", ChangesTest::full, f -> f.cut(48, 0, 1), -2);
-        Due.refused("cut(0, 1, 1), full", ChangesTest::full, f -> f.cut(0, 1, 1), -1);
-        Due.refused("cut(20, 0, 6), full", ChangesTest::full, f -> f.cut(20, 0, 6), -1);
-        Due.refused("cut(20, 0, 5), full", ChangesTest::full, f -> f.cut(20, 0, 5), -4);
+        Due.refused("cut(48, 0, 1), full", Due::full, f -> f.cut(48, 0, 1), -2);
+        Due.refused("cut(0, 1, 1), full", Due::full, f -> f.cut(0, 1, 1), -1);
+        Due.refused("cut(20, 0, 6), full", Due::full, f -> f.cut(20, 0, 6), -1);
+        Due.refused("cut(20, 0, 5), full", Due::full, f -> f.cut(20, 0, 5), -4);
         Due.says("how many calls were REFUSED by -1 .. -4, each by its own number");
-        FoamCells f = full();
+        FoamCells f = Due.full();
         f.rate(10);
         f.area(48, 0);
         f.swap(144);
@@ -122,24 +87,24 @@ public final class ChangesTest {
     private static void ring() {
         Due.says("ring: -1");
         for (int[] wh : new int[][] {{2, 3}, {3, 2}, {7, 6}, {6, 7}, {0, 0}, {-3, -3}, {NO, 3}, {3, MOST}}) {
-            Due.refused("ring(" + wh[0] + ", " + wh[1] + ")", ChangesTest::lively, f -> f.ring(wh[0], wh[1]), -1);
+            Due.refused("ring(" + wh[0] + ", " + wh[1] + ")", Due::lively, f -> f.ring(wh[0], wh[1]), -1);
         }
         Due.says("ring: how many CELLS");
         FoamCells f = new FoamCells();
         Due.row("least, greatest", new int[] {f.ring(3, 3), f.ring(3, 6), f.ring(6, 3), f.ring(6, 6)}, 9, 18, 18, 36);
         Due.says("ring() makes counts 3 to 6, 10 and 15 0; how many were REFUSED, RATE stay");
-        f = lively();
+        f = Due.lively();
         Due.row("counts ahead", Due.each(0, 15, f::count), 16, 48, 32, 2, 3, 1, 2, 4, 4, 2, 7, 1, 1, 1, 0, 1);
         Due.due("ring(5, 3)", f.ring(5, 3), 15);
         Due.row("counts behind", Due.each(0, 15, f::count), 15, 45, 30, 0, 0, 0, 0, 5, 3, 2, 0, 1, 1, 1, 0, 0);
         Due.row("log", Due.log(f, 0), -1, -1, -1);
         Due.says("as at first: nothing of what was is left");
-        Due.text("ring(6, 6) of a full one", Due.picture(ChangesTest::full, g -> g.ring(6, 6)),
+        Due.text("ring(6, 6) of a full one", Due.picture(Due::full, g -> g.ring(6, 6)),
             Due.picture(() -> Due.ring(6, 6), g -> 0));
-        Due.text("ring(3, 3) of a full one", Due.picture(ChangesTest::full, g -> g.ring(3, 3)),
+        Due.text("ring(3, 3) of a full one", Due.picture(Due::full, g -> g.ring(3, 3)),
             Due.picture(() -> Due.ring(3, 3), g -> 0));
         Due.says("ring(): what is kept stays");
-        f = lively();
+        f = Due.lively();
         f.ring(6, 6);
         Due.due("again(1)", f.again(1), true);
         Due.row("as kept", Due.each(0, 10, f::count), 16, 48, 32, 2, 2, 0, 0, 4, 4, 2, 2);
@@ -148,7 +113,7 @@ public final class ChangesTest {
     private static void rate() {
         Due.says("rate (0 .. 9): what it was. -1");
         for (int rate : new int[] {NO, -1, 10, MOST}) {
-            Due.refused("rate(" + rate + ")", ChangesTest::lively, f -> f.rate(rate), -1);
+            Due.refused("rate(" + rate + ")", Due::lively, f -> f.rate(rate), -1);
         }
         FoamCells f = new FoamCells();
         Due.due("rate(0): 1 at first", f.rate(0), 1);
@@ -169,7 +134,7 @@ public final class ChangesTest {
     private static void area() {
         Due.says("area: AREA (-999 .. 9,999). -1");
         for (int area : new int[] {NO, -1000, 10000, MOST}) {
-            Due.refused("area(0, " + area + ")", ChangesTest::lively, f -> f.area(0, area), -1);
+            Due.refused("area(0, " + area + ")", Due::lively, f -> f.area(0, area), -1);
         }
         FoamCells f = new FoamCells();
         Due.row("area(15, ..)", new int[] {f.area(15, -999), f.area(15, 9999), f.area(15, 0), f.area(15, -1),
@@ -182,10 +147,10 @@ public final class ChangesTest {
         f.vanish(0);
         Due.due("area(3, 5)", f.area(3, 5), 19998);
         Due.says("area: -2 no such CELL");
-        for (int cell : NO_CELLS) {
-            Due.refused("area(" + cell + ", 0)", ChangesTest::lively, g -> g.area(cell, 0), -2);
+        for (int cell : Due.NO_CELLS) {
+            Due.refused("area(" + cell + ", 0)", Due::lively, g -> g.area(cell, 0), -2);
         }
-        f = full();
+        f = Due.full();
         Due.row("least and greatest number", new int[] {f.area(0, 7), f.area(47, 8), f.cell(0, 1), f.cell(47, 1)},
             50, 50, 7, 8);
     }
@@ -193,25 +158,25 @@ public final class ChangesTest {
     private static void length() {
         Due.says("length: LENGTH of a WALL (0 .. 99). -1");
         for (int length : new int[] {NO, -1, 100, MOST}) {
-            Due.refused("length(0, " + length + ")", ChangesTest::lively, f -> f.length(0, length), -1);
+            Due.refused("length(0, " + length + ")", Due::lively, f -> f.length(0, length), -1);
         }
         FoamCells f = new FoamCells();
         Due.row("length(47, ..)", new int[] {f.length(47, 0), f.length(47, 99), f.length(47, 50), f.wall(47, 4),
             f.wall(46, 4)}, 10, 0, 99, 50, 10);
         Due.says("length: -2 no such WALL");
-        for (int wall : NO_WALLS) {
-            Due.refused("length(" + wall + ", 0)", ChangesTest::lively, g -> g.length(wall, 0), -2);
+        for (int wall : Due.NO_WALLS) {
+            Due.refused("length(" + wall + ", 0)", Due::lively, g -> g.length(wall, 0), -2);
         }
         // 0 was halved with CELL 0, to 5, then with CELL 1, to 3
-        f = full();
+        f = Due.full();
         Due.row("least and greatest number", new int[] {f.length(0, 7), f.length(143, 8), f.wall(0, 4),
             f.wall(143, 4)}, 3, 10, 7, 8);
     }
 
     private static void swap() {
         Due.says("swap: -2");
-        for (int wall : NO_WALLS) {
-            Due.refused("swap(" + wall + ")", ChangesTest::lively, f -> f.swap(wall), -2);
+        for (int wall : Due.NO_WALLS) {
+            Due.refused("swap(" + wall + ")", Due::lively, f -> f.swap(wall), -2);
         }
         Due.says("swap: -3");
         Due.refused("swap(48): 16 has 3 sides", ChangesTest::threeAtFive, f -> f.swap(48), -3);
@@ -228,7 +193,7 @@ public final class ChangesTest {
         }
         Due.row("counted and logged", new int[] {f.count(4), f.count(10), f.log(0, 0), f.log(0, 2)}, 9, 9, 0, 30);
         Due.says("least and greatest WALL");
-        f = full();
+        f = Due.full();
         Due.due("swap(143): 47 has 3 sides", f.swap(143), -3);
         f = Due.ring(6, 6);
         Due.row("swap", new int[] {f.swap(107), f.swap(0), f.swap(108)}, 996, 996, -2);
@@ -252,8 +217,8 @@ public final class ChangesTest {
 
     private static void vanish() {
         Due.says("vanish: -2");
-        for (int cell : NO_CELLS) {
-            Due.refused("vanish(" + cell + ")", ChangesTest::lively, f -> f.vanish(cell), -2);
+        for (int cell : Due.NO_CELLS) {
+            Due.refused("vanish(" + cell + ")", Due::lively, f -> f.vanish(cell), -2);
         }
         Due.says("vanish: -3 (it has not 3 SIDES, too)");
         Due.refused("vanish(0): 6", FoamCells::new, f -> f.vanish(0), -3);
@@ -291,12 +256,12 @@ public final class ChangesTest {
         Due.row("cut(8, ..)", new int[] {new FoamCells().cut(8, 0, 5), new FoamCells().cut(8, 5, 0),
             threeAtFive().cut(16, 0, 2), threeAtFive().cut(16, 2, 0)}, 16, 16, 17, 17);
         Due.says("cut: -2");
-        for (int cell : NO_CELLS) {
-            Due.refused("cut(" + cell + ", 0, 1)", ChangesTest::lively, f -> f.cut(cell, 0, 1), -2);
+        for (int cell : Due.NO_CELLS) {
+            Due.refused("cut(" + cell + ", 0, 1)", Due::lively, f -> f.cut(cell, 0, 1), -2);
         }
         Due.says("cut: -4, 48 CELLS at most");
-        Due.refused("cut(0, 0, 1)", ChangesTest::full, f -> f.cut(0, 0, 1), -4);
-        FoamCells f = full();
+        Due.refused("cut(0, 0, 1)", Due::full, f -> f.cut(0, 0, 1), -4);
+        FoamCells f = Due.full();
         Due.due("vanish(47) is done", f.vanish(47) >= 0, true);
         Due.due("one has gone: its number is free", f.cut(30, 0, 1), 47);
         Due.due("full again", f.cut(30, 0, 1), -4);
@@ -305,8 +270,8 @@ public final class ChangesTest {
 
     private static void burst() {
         Due.says("burst: -2");
-        for (int wall : NO_WALLS) {
-            Due.refused("burst(" + wall + ")", ChangesTest::lively, f -> f.burst(wall), -2);
+        for (int wall : Due.NO_WALLS) {
+            Due.refused("burst(" + wall + ")", Due::lively, f -> f.burst(wall), -2);
         }
         Due.says("burst: -3");
         Due.refused("burst(1): not four cells", ChangesTest::oneEnd, f -> f.burst(1), -3);
@@ -340,7 +305,7 @@ public final class ChangesTest {
         Due.says("shake (SEED 0 .. 999,999, n 1 .. 99, h 0 .. 99): -1");
         for (int[] a : new int[][] {{-1, 1, 0}, {1000000, 1, 0}, {0, 0, 0}, {0, 100, 0}, {0, 1, -1}, {0, 1, 100},
             {NO, 50, 50}, {MOST, 50, 50}, {5, NO, 50}, {5, MOST, 50}, {5, 50, NO}, {5, 50, MOST}}) {
-            Due.refused("shake(" + a[0] + ", " + a[1] + ", " + a[2] + ")", ChangesTest::lively,
+            Due.refused("shake(" + a[0] + ", " + a[1] + ", " + a[2] + ")", Due::lively,
                 f -> f.shake(a[0], a[1], a[2]), -1);
         }
         Due.says("SHAKEN n times: by 1 the first DRAW alone, by 99 the 99th too");
@@ -398,7 +363,7 @@ public final class ChangesTest {
     private static void steps() {
         Due.says("steps (1 .. 50): -1");
         for (int n : new int[] {NO, -1, 0, 51, MOST}) {
-            Due.refused("steps(" + n + ")", ChangesTest::lively, f -> f.steps(n), -1);
+            Due.refused("steps(" + n + ")", Due::lively, f -> f.steps(n), -1);
         }
         Due.says("n STEPS");
         FoamCells f = Due.swapped(new FoamCells(), 0);
@@ -480,21 +445,21 @@ public final class ChangesTest {
     private static void keeping() {
         Due.says("keep (0, 1): true; false: others");
         for (int k : new int[] {NO, -1, 2, MOST}) {
-            Due.leaves("keep(" + k + ")", ChangesTest::lively, f -> f.keep(k) ? 1 : 0, 0);
-            Due.leaves("again(" + k + ")", ChangesTest::lively, f -> f.again(k) ? 1 : 0, 0);
+            Due.leaves("keep(" + k + ")", Due::lively, f -> f.keep(k) ? 1 : 0, 0);
+            Due.leaves("again(" + k + ")", Due::lively, f -> f.again(k) ? 1 : 0, 0);
         }
-        Due.leaves("keep(0)", ChangesTest::lively, f -> f.keep(0) ? 1 : 0, 1);
-        Due.leaves("keep(1)", ChangesTest::lively, f -> f.keep(1) ? 1 : 0, 1);
+        Due.leaves("keep(0)", Due::lively, f -> f.keep(0) ? 1 : 0, 1);
+        Due.leaves("keep(1)", Due::lively, f -> f.keep(1) ? 1 : 0, 1);
         Due.says("again: false: nothing kept");
-        Due.leaves("again(0): only 1 is kept", ChangesTest::lively, f -> f.again(0) ? 1 : 0, 0);
+        Due.leaves("again(0): only 1 is kept", Due::lively, f -> f.again(0) ? 1 : 0, 0);
         Due.says("All is kept: it is as it was kept");
         for (int k = 0; k < 2; k++) {
             int at = k;
-            Due.text("again(" + k + ")", Due.picture(ChangesTest::lively, f -> awayAndBack(f, at)),
-                Due.picture(ChangesTest::lively, f -> 0));
+            Due.text("again(" + k + ")", Due.picture(Due::lively, f -> awayAndBack(f, at)),
+                Due.picture(Due::lively, f -> 0));
         }
         Due.says("keep() keeps REFUSED counts, RATE, W, H, too, again() brings them back");
-        FoamCells f = lively();
+        FoamCells f = Due.lively();
         awayAndBack(f, 0);
         Due.row("counts", Due.each(0, 15, f::count), 16, 48, 32, 2, 3, 1, 2, 4, 4, 2, 7, 1, 1, 1, 0, 1);
         Due.says("what is kept stays: it comes again more than once, whatever has been");

@@ -6,6 +6,9 @@ final class Due {
     static final int MOST = Integer.MAX_VALUE;
     /** Stands for a NoSuchElementException among answers. */
     static final int THROWS = 987654321;
+    /** Numbers that no CELL of a lively foam has: outside all, free, gone. */
+    static final int[] NO_CELLS = {NO, -2, -1, 15, 17, 18, 47, 48, 49, MOST};
+    static final int[] NO_WALLS = {NO, -2, -1, 26, 45, 46, 51, 53, 54, 143, 144, 145, MOST};
 
     private static String sentence = "";
     private static int asked = 0;
@@ -194,6 +197,38 @@ final class Due {
     static FoamCells ring(int w, int h) {
         FoamCells f = new FoamCells();
         f.ring(w, h);
+        return f;
+    }
+
+    /**
+     * Of 4 by 4: 15 went by a BURST (with WALLS 26, 45, 46), 17 has VANISHED (with 51 to 53), 16 has 3 SIDES; something
+     * of each kind is in the LOG, three calls were refused, one foam is kept.
+     */
+    static FoamCells lively() {
+        FoamCells f = new FoamCells();
+        f.rate(2);
+        f.rate(10);
+        f.length(99, 5);
+        f.vanish(3);
+        f.length(0, 0);
+        f.steps(2);
+        f.swap(0);
+        f.keep(1);
+        f.cut(5, 0, 1);
+        f.cut(8, 0, 1);
+        f.vanish(17);
+        f.burst(45);
+        f.area(11, -5);
+        f.length(33, 7);
+        f.swap(30);
+        return f;
+    }
+
+    static FoamCells full() {
+        FoamCells f = ring(6, 6);
+        for (int k = 0; k < 12; k++) {
+            f.cut(k, 0, 1);
+        }
         return f;
     }
 
