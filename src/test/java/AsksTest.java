@@ -429,6 +429,16 @@ public final class AsksTest {
             f.area(c, 9999 - c);
         }
         Due.row("all(2), (3), (4)", new int[] {f.all(2), f.all(3), f.all(4)}, 9999 * 16 - 120, 9999, 9984);
+        Due.says("the most SIDES (8), the fewest (9): those of CELL 0 alone, of the last one alone");
+        f = new FoamCells();
+        f.burst(9);
+        Due.row("0 has 8", new int[] {f.cell(0, 0), f.all(8), f.kind(8, 0)}, 8, 8, 1);
+        f = Due.swapped(new FoamCells(), 0, 1);
+        Due.row("0 has 4", new int[] {f.cell(0, 0), f.all(9), f.kind(4, 0)}, 4, 4, 1);
+        f = Due.full();
+        f.burst(143);
+        Due.row("46 has 3", new int[] {f.cell(46, 0), f.all(9)}, 3, 3);
+        f = new FoamCells();
         Due.says("all LENGTHS, each 0 or 99");
         Due.lengthen(f, 0);
         Due.due("all(5)", f.all(5), 0);

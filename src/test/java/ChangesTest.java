@@ -462,6 +462,13 @@ public final class ChangesTest {
         FoamCells f = Due.lively();
         awayAndBack(f, 0);
         Due.row("counts", Due.each(0, 15, f::count), 16, 48, 32, 2, 3, 1, 2, 4, 4, 2, 7, 1, 1, 1, 0, 1);
+        FoamCells g = Due.full();
+        g.cut(0, 0, 1);
+        g.keep(1);
+        g.cut(0, 0, 1);
+        g.ring(3, 3);
+        g.again(1);
+        Due.row("refused by -4", Due.each(11, 14, g::count), 0, 0, 0, 1);
         Due.says("what is kept stays: it comes again more than once, whatever has been");
         for (int k = 0; k < 3; k++) {
             f.swap(f.easiest());

@@ -42,6 +42,7 @@ public final class OnPaperTest {
         lows(new int[] {3, 4}, new int[] {19, 22, 27, 11, 35, 6, 16}, 6, 6, 4);
         Due.says("a second SWAP may be any that can be then, though it could not be ahead of the first");
         lows(new int[] {3, 3}, new int[] {22, 5, 20, 19, 4, 25, 16}, 28, 20, 12);
+        lows(new int[] {3, 3}, new int[] {1, 10, 23, 0}, 22, 14, 6);
         Due.says("a second SWAP that can't be then is none");
         lows(new int[] {3, 3}, new int[] {20, 19, 16, 11, 8, 23, 20}, 20, 12, 10);
         Due.says("lowest: as by doing all of them");

@@ -113,6 +113,17 @@ public final class TermsTest {
         Due.row("new walls in their order: 9 part of the first", new int[] {f.wall(9, 0), f.wall(9, 1)}, 3, 6);
         Due.row("10 part of the second", new int[] {f.wall(10, 0), f.wall(10, 1)}, 3, 14);
         Due.row("38 the one between", new int[] {f.wall(38, 0), f.wall(38, 1)}, 3, 10);
+        // burst(0) takes CELL 1 and WALLS 0, 5, 41
+        f = new FoamCells();
+        f.burst(0);
+        Due.row("walls 0, 5, 41 are gone", new int[] {f.wall(0, 0), f.wall(5, 0), f.wall(41, 0)}, -1, -1, -1);
+        Due.due("cut(10, 0, 3)", f.cut(10, 0, 3), 1);
+        Due.row("0 part of the first", new int[] {f.wall(0, 0), f.wall(0, 1)}, 1, 6);
+        Due.row("5 part of the second", new int[] {f.wall(5, 0), f.wall(5, 1)}, 1, 14);
+        Due.row("41 the one between", new int[] {f.wall(41, 0), f.wall(41, 1)}, 1, 10);
+        f = noughtOfThree();
+        f.vanish(0);
+        Due.due("cut(10, 0, 3): CELL 0 is free", f.cut(10, 0, 3), 0);
     }
 
     private static void rows() {
@@ -284,6 +295,10 @@ public final class TermsTest {
         Due.due("sides of 12", f.cell(12, 0), 3);
         Due.due("vanish(0): one has 3", f.vanish(0), -3);
         Due.due("vanish(12): one has 3", f.vanish(12), -3);
+        Due.says("each with 4 SIDES or more: the first, the second, the third one");
+        besides(3, 10, 11, 6, 46);
+        besides(12, 25, 29, 45);
+        besides(13, 0, 1, 28, 32, 39, 40);
         Due.says("VANISH of a CELL with 3 SIDES");
         f = Due.swapped(new FoamCells(), 0, 1);
         Due.due("vanish(0): it has 4", f.vanish(0), -3);
@@ -302,6 +317,35 @@ public final class TermsTest {
         heir("one is 0", -999, -5, 0, -4, 12);
         heir("beyond what area() takes", 9999, 9999, 9999, 9999, 3);
         heir("nothing to bring", 0, 1, 2, 3, 13);
+        Due.says("of like ones to the least number, 0");
+        heirOfOne("all alike", 100, 100, 0);
+        heirOfOne("greater than both", 99, -1, 0);
+        heirOfOne("less than the second", 101, 100, 13);
+        heirOfOne("less than the third", 100, 101, 14);
+    }
+
+    /** 0's neighbour comes to 4 SIDES by all SWAPS but the last one, then to 3. */
+    private static void besides(int neighbour, int... walls) {
+        FoamCells f = Due.swapped(noughtOfThree(), java.util.Arrays.copyOf(walls, walls.length - 1));
+        Due.row("neighbours of 0", Due.neighbours(f, 0), 3, 12, 13);
+        Due.due("sides of " + neighbour, f.cell(neighbour, 0), 4);
+        f.keep(0);
+        Due.due("vanish(0): " + neighbour + " has 4", f.vanish(0), 3);
+        Due.due("sides of " + neighbour + " then", f.cell(neighbour, 0), 3);
+        f.again(0);
+        Due.swapped(f, walls[walls.length - 1]);
+        Due.row("neighbours of 0", Due.neighbours(f, 0), 3, 12, 13);
+        Due.due("sides of " + neighbour, f.cell(neighbour, 0), 3);
+        Due.due("vanish(0): " + neighbour + " has 3", f.vanish(0), -3);
+    }
+
+    /** 1 has 3 SIDES: 0 to 0, 40 to 13, 44 to 14; 0 has AREA 100. */
+    private static void heirOfOne(String name, int second, int third, int due) {
+        FoamCells f = Due.swapped(new FoamCells(), 3, 4, 5);
+        Due.row("neighbours of 1", Due.neighbours(f, 1), 0, 13, 14);
+        f.area(13, second);
+        f.area(14, third);
+        Due.due(name + ": vanish(1)", f.vanish(1), due);
     }
 
     private static void heir(String name, int mine, int a, int b, int c, int due) {
@@ -437,6 +481,16 @@ public final class TermsTest {
         f = noughtOfThree();
         Due.row("ends of 38", new int[] {f.wall(38, 2), f.wall(38, 3)}, 0, 15);
         Due.due("burst(38): an end has 3", f.burst(38), -3);
+        for (int w : new int[] {1, 10, 36, 38}) {
+            f = Due.swapped(new FoamCells(), 0, 1);
+            Due.row("sides of 0, it is an end", new int[] {f.cell(0, 0), f.wall(w, 2)}, 4, 0);
+            Due.due("burst(" + w + "): an end has 4", f.burst(w) >= 0, true);
+        }
+        for (int w : new int[] {2, 36, 38}) {
+            f = noughtOfThree();
+            Due.row("sides of 0, it is an end", new int[] {f.cell(0, 0), f.wall(w, 2)}, 3, 0);
+            Due.due("burst(" + w + "): an end has 3", f.burst(w), -3);
+        }
         f = new FoamCells();
         f.cut(5, 0, 1);
         Due.row("ends of 8, the other way", new int[] {f.wall(8, 2), f.wall(8, 3)}, 6, 16);
@@ -506,6 +560,15 @@ public final class TermsTest {
         Due.row("42, from 12 to 14", new int[] {f.rounds(42, 0), f.rounds(42, 1)}, -1, 0);
         Due.row("25, from 8 to 12, with what was 26", new int[] {f.rounds(25, 0), f.rounds(25, 1)}, 0, 0);
         Due.row("37, from 0 to 12, as it was", new int[] {f.rounds(37, 0), f.rounds(37, 1)}, 0, -1);
+        // 37 lies between 12 (0, 3) and 0: less 1 in y from 0 to 12; out of 12 as out of 0
+        f = new FoamCells();
+        Due.due("burst(37)", f.burst(37), 0);
+        Due.row("36, from 0 to 13, with what was 41", new int[] {f.rounds(36, 0), f.rounds(36, 1)}, 0, -1);
+        Due.row("25, from 0 to 8", new int[] {f.rounds(25, 0), f.rounds(25, 1)}, 0, -1);
+        Due.row("45, from 0 to 15", new int[] {f.rounds(45, 0), f.rounds(45, 1)}, -1, -1);
+        Due.row("29, from 0 to 9", new int[] {f.rounds(29, 0), f.rounds(29, 1)}, 0, -1);
+        Due.row("9, from 0 to 3, with what was 38", new int[] {f.rounds(9, 0), f.rounds(9, 1)}, -1, 0);
+        Due.row("0, from 0 to 1, as it was", new int[] {f.rounds(0, 0), f.rounds(0, 1)}, 0, 0);
         Due.says("a WAY that goes about on one side of what was there counts as it did");
         Due.row("around 12", Due.each(-1, 1, x -> burst45().around(12, x, 0)), 3, 0, 3);
     }
