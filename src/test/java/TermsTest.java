@@ -571,11 +571,20 @@ public final class TermsTest {
         Due.row("0, from 0 to 1, as it was", new int[] {f.rounds(0, 0), f.rounds(0, 1)}, 0, 0);
         Due.says("a WAY that goes about on one side of what was there counts as it did");
         Due.row("around 12", Due.each(-1, 1, x -> burst45().around(12, x, 0)), 3, 0, 3);
+        Due.row("around 14", Due.each(-1, 1, x -> burst45().around(14, x, 0)), 3, 0, 3);
+        Due.row("around 0", Due.each(-1, 1, y -> burst37().around(0, 0, y)), 3, 0, 3);
+        Due.row("around 8", Due.each(-1, 1, y -> burst37().around(8, 0, y)), 3, 0, 3);
     }
 
     private static FoamCells burst45() {
         FoamCells f = new FoamCells();
         f.burst(45);
+        return f;
+    }
+
+    private static FoamCells burst37() {
+        FoamCells f = new FoamCells();
+        f.burst(37);
         return f;
     }
 
