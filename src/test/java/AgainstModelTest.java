@@ -1,3 +1,6 @@
+import java.util.ArrayList;
+import java.util.Arrays;
+import java.util.List;
 import java.util.NoSuchElementException;
 import java.util.Random;
 
@@ -6,10 +9,18 @@ public final class AgainstModelTest {
     private static int wrong = 0;
     private static long asked = 0;
     private static final StringBuilder RUN = new StringBuilder();
+    private static final String[] NAMES = {"ring", "rate", "area", "length", "swap", "vanish", "cut", "burst", "shake",
+        "steps", "relax", "keep", "again"};
+    private static final int[] NUMBERS = {2, 1, 2, 2, 1, 1, 3, 1, 3, 1, 0, 1, 1};
+
+    /** What later calls of one object answer is free. */
+    private static final int MOST_CALLS = 512;
 
     private final Random pick;
-    private final FoamCells foam = new FoamCells();
     private final Model model = new Model();
+    private final List<int[]> changes = new ArrayList<>();
+    private FoamCells foam = new FoamCells();
+    private int used = 0;
 
     private AgainstModelTest(long seed) {
         pick = new Random(seed);
@@ -89,21 +100,58 @@ public final class AgainstModelTest {
     }
 
     private int change(int which, int a, int b, int c) {
-        switch (which) {
-            case 0: return see("ring", foam.ring(a, b), model.ring(a, b), a, b);
-            case 1: return see("rate", foam.rate(a), model.rate(a), a);
-            case 2: return see("area", foam.area(a, b), model.area(a, b), a, b);
-            case 3: return see("length", foam.length(a, b), model.length(a, b), a, b);
-            case 4: return see("swap", foam.swap(a), model.swap(a), a);
-            case 5: return see("vanish", foam.vanish(a), model.vanish(a), a);
-            case 6: return see("cut", foam.cut(a, b, c), model.cut(a, b, c), a, b, c);
-            case 7: return see("burst", foam.burst(a), model.burst(a), a);
-            case 8: return see("shake", foam.shake(a, b, c), model.shake(a, b, c), a, b, c);
-            case 9: return see("steps", foam.steps(a), model.steps(a), a);
-            case 10: return see("relax", foam.relax(), model.relax());
-            case 11: return see("keep", foam.keep(a) ? 1 : 0, model.keep(a) ? 1 : 0, a);
-            default: return see("again", foam.again(a) ? 1 : 0, model.again(a) ? 1 : 0, a);
+        int[] change = {which, a, b, c};
+        changes.add(change);
+        int due = onModel(change);
+        return see(NAMES[which], onFoam(change), due, Arrays.copyOfRange(change, 1, 1 + NUMBERS[which]));
+    }
+
+    private int onFoam(int[] c) {
+        switch (c[0]) {
+            case 0: return foam.ring(c[1], c[2]);
+            case 1: return foam.rate(c[1]);
+            case 2: return foam.area(c[1], c[2]);
+            case 3: return foam.length(c[1], c[2]);
+            case 4: return foam.swap(c[1]);
+            case 5: return foam.vanish(c[1]);
+            case 6: return foam.cut(c[1], c[2], c[3]);
+            case 7: return foam.burst(c[1]);
+            case 8: return foam.shake(c[1], c[2], c[3]);
+            case 9: return foam.steps(c[1]);
+            case 10: return foam.relax();
+            case 11: return foam.keep(c[1]) ? 1 : 0;
+            default: return foam.again(c[1]) ? 1 : 0;
         }
+    }
+
+    private int onModel(int[] c) {
+        switch (c[0]) {
+            case 0: return model.ring(c[1], c[2]);
+            case 1: return model.rate(c[1]);
+            case 2: return model.area(c[1], c[2]);
+            case 3: return model.length(c[1], c[2]);
+            case 4: return model.swap(c[1]);
+            case 5: return model.vanish(c[1]);
+            case 6: return model.cut(c[1], c[2], c[3]);
+            case 7: return model.burst(c[1]);
+            case 8: return model.shake(c[1], c[2], c[3]);
+            case 9: return model.steps(c[1]);
+            case 10: return model.relax();
+            case 11: return model.keep(c[1]) ? 1 : 0;
+            default: return model.again(c[1]) ? 1 : 0;
+        }
+    }
+
+    /** Another object to which the same has been done, as soon as one has been used for as many calls as it may. */
+    private void renewIfUsed() {
+        if (used < MOST_CALLS) {
+            return;
+        }
+        foam = new FoamCells();
+        for (int[] change : changes) {
+            onFoam(change);
+        }
+        used = changes.size();
     }
 
     private int askSome() {
@@ -346,6 +394,8 @@ public final class AgainstModelTest {
             wrong++;
             RUN.append(", due is ").append(due);
         }
+        used++;
+        renewIfUsed();
         return 1;
     }
 

@@ -46,6 +46,7 @@ public final class RoundsTest {
         around();
         spans();
         ends();
+        oneAfterAnother();
         many();
         Due.end();
     }
@@ -180,6 +181,18 @@ public final class RoundsTest {
             Due.due("what " + what + ", ends by " + k, r.walkSpans(row[5], row[6], what, DUE, k, k), k == end ? 1 : 0);
         }
         Due.due("what " + what + ", by " + end + " alone", r.foam.spans(row[5], row[6], what), 1);
+    }
+
+    /** In these foams the WAYS of both calls come to CELL 0 with -2 and -2; the second one's shortest goes on there. */
+    private static void oneAfterAnother() {
+        Due.says("around: the fewest WALLS crossed, whatever was asked ahead of it");
+        int[][] rows = {{3, 3, 6864, 84, 7, 6, -1, -1}, {4, 3, 19357, 97, 8, 1, -1, -1}, {3, 4, 24838, 98, 8, 5, 0, -1}};
+        for (int[] row : rows) {
+            RoundsTest r = shaken(row);
+            Due.due("around(0, 0, 0)", r.foam.around(0, 0, 0), 0);
+            Due.due("around(" + row[5] + ", " + row[6] + ", " + row[7] + ") then", r.foam.around(row[5], row[6], row[7]),
+                r.walkAround(row[5], row[6], row[7], DUE));
+        }
     }
 
     /** Every CELL of some foams, as the walk has it. */
